@@ -33,6 +33,7 @@ public final class ListTests {
         for (int l = 6; l < 16; l++) {
             due.is("one more", x.list(0, 0, 0, 0), l);
         }
+        due.is("those there, of 16", x.count(1), 15);
         due.is("17th", x.list(0, 0, 0, 0), FULL);
         due.is("BAD ahead of FULL", x.list(9, 0, 0, 0), BAD);
         x.drop(1);
