@@ -797,19 +797,16 @@ public final class WordGrid {
             return true;
         }
 
-        @Override
         boolean allows(long w) {
             notes.begin(PLAIN, ALLOWS);
             return placeOf(w) >= 0;
         }
 
-        @Override
         int many() {
             notes.begin(PLAIN, MANY);
             return size;
         }
 
-        @Override
         long wordNumber(int k) {
             notes.begin(PLAIN, WORD);
             if (k < 0 || k >= size) {
@@ -819,7 +816,6 @@ public final class WordGrid {
             return words[k];
         }
 
-        @Override
         int scoreOf(long w) {
             notes.begin(PLAIN, SCORE);
             return 0;
@@ -833,7 +829,6 @@ public final class WordGrid {
             super(SCORED, notes);
         }
 
-        @Override
         boolean take(long w, int score) {
             boolean there = super.take(w, score);
             int place = placeOf(w);
@@ -843,7 +838,6 @@ public final class WordGrid {
             return there;
         }
 
-        @Override
         int scoreOf(long w) {
             notes.begin(SCORED, SCORE);
             int plain = super.scoreOf(w);
@@ -857,13 +851,11 @@ public final class WordGrid {
             super(BANNED, notes);
         }
 
-        @Override
         boolean allows(long w) {
             notes.begin(BANNED, ALLOWS);
             return !super.allows(w);
         }
 
-        @Override
         int many() {
             notes.begin(BANNED, MANY);
             return 0;
@@ -897,7 +889,6 @@ public final class WordGrid {
             return lengthUpTo(w, LETTERS) == length && ((w ^ letters) & mask) == 0;
         }
 
-        @Override
         boolean allows(long w) {
             notes.begin(PATTERN, ALLOWS);
             if (!fits(w)) {
@@ -907,14 +898,12 @@ public final class WordGrid {
             return one != null && one.allows(w);
         }
 
-        @Override
         int many() {
             notes.begin(PATTERN, MANY);
             WordList one = shelf.wanted(a);
             return one == null ? 0 : one.many();
         }
 
-        @Override
         long wordNumber(int k) {
             notes.begin(PATTERN, WORD);
             WordList one = shelf.wanted(a);
@@ -922,7 +911,6 @@ public final class WordGrid {
             return fits(w) ? w : 0;
         }
 
-        @Override
         int scoreOf(long w) {
             notes.begin(PATTERN, SCORE);
             WordList one = shelf.wanted(a);
@@ -947,7 +935,6 @@ public final class WordGrid {
             return other != null && other.allows(w);
         }
 
-        @Override
         boolean allows(long w) {
             notes.begin(JOINED, ALLOWS);
             WordList one = shelf.wanted(a);
@@ -955,14 +942,12 @@ public final class WordGrid {
             return allowed && !notes.met() && otherAllows(w);
         }
 
-        @Override
         int many() {
             notes.begin(JOINED, MANY);
             WordList one = shelf.wanted(a);
             return one == null ? 0 : one.many();
         }
 
-        @Override
         long wordNumber(int k) {
             notes.begin(JOINED, WORD);
             WordList one = shelf.wanted(a);
@@ -970,7 +955,6 @@ public final class WordGrid {
             return w != 0 && !notes.met() && otherAllows(w) ? w : 0;
         }
 
-        @Override
         int scoreOf(long w) {
             notes.begin(JOINED, SCORE);
             WordList one = shelf.wanted(a);
