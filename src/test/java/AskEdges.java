@@ -86,7 +86,7 @@ final class AskEdges extends Edges {
             due(x.ask(0, act, w("AB")), NOTHING);
             due(x.ask(1, act, w("AB")) >= 0 ? 1 : 0, 1);
         }
-        test(11, "1 NOTHING: where there is no GRID, no LIST, or a ROW is LACKING, and it is used;");
+        test(11, NOTHING_IS);
         finds(x -> x.ask(6, ALLOWS, w("AB")), NOTHING, 30);
         finds(x -> x.ask(6, MANY, 0), NOTHING, 31);
         finds(x -> x.ask(6, SCORE, w("AB")), NOTHING, 33);
@@ -105,15 +105,15 @@ final class AskEdges extends Edges {
         test(11, "A call that has one answers -10 less it (one that answers a long: 0), the first that it meets; it changes "
             + "nothing then but THE TRACE, finding(), found() and count(4), where its comment says nothing else.");
         // Both LISTS of it are no more: one FINDING all the same, and b is not asked.
-        Begin both = () -> {
-            Desk y = busy();
-            y.list(JOINED, 5, 5, 0);
-            y.fill(0, 2);
-            y.judge(2, 8);
-            return y;
-        };
+        Begin both = () -> busyWith(y -> y.list(JOINED, 5, 5, 0));
         findsOn(both, y -> y.ask(MADE, ALLOWS, w("AB")), NOTHING, 40);
         findsOn(both, y -> y.ask(MADE, SCORE, w("AB")), NOTHING, 43);
+        // What a is asked has a FINDING: neither is b asked behind that.
+        Begin inner = () -> busyWith(y -> y.list(JOINED, 6, 0, 0));
+        findsOn(inner, y -> y.ask(MADE, ALLOWS, w("AB")), NOTHING, 40, 30);
+        findsOn(inner, y -> y.ask(MADE, MANY, 0), NOTHING, 41, 31);
+        findsOn(inner, y -> y.ask(MADE, SCORE, w("AB")), NOTHING, 43, 33);
+        asks(inner.desk(), MADE, ALLOWS, "ABC", 0, 40, 30);
     }
 
     private void allows() {
@@ -272,7 +272,7 @@ final class AskEdges extends Edges {
         tells(full, 0, 39, nth(39), 2);
         due(full.wordOf(0, 40), 0);
         due(full.finding(), 2);
-        test(12, "2 BEYOND: a ROW, a SQUARE, a place that there is not;");
+        test(12, BEYOND_IS);
         findsOfLong(y -> y.wordOf(0, 2), BEYOND, 2);
         tells(busy(), 0, 1, w("AA"), 2);
     }

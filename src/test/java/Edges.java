@@ -10,6 +10,11 @@ abstract class Edges {
     static final int ALLOWS = 0, MANY = 1, SCORE = 3, KIND = 4;
     static final int MAX = Integer.MAX_VALUE, MIN = Integer.MIN_VALUE;
     static final int[] NO_GRID_NUMBERS = {-1, 4, MIN, MAX};
+    /** Sentences of the terms that several promises share. */
+    static final String NOTHING_IS = "1 NOTHING: where there is no GRID, no LIST, or a ROW is LACKING, and it is used;";
+    static final String BEYOND_IS = "2 BEYOND: a ROW, a SQUARE, a place that there is not;";
+    static final String WHITE_IS = "WHITE is a SQUARE that there is and is not BLACK (a ROW that is LACKING has none; "
+        + "that is no FINDING where ENTRIES or SQUARES are looked at).";
     private static final int TRACE = 100;
 
     /** A desk as a test wants it; it is made twice, to compare what both tell. */
@@ -95,6 +100,36 @@ abstract class Edges {
     final Desk busyBeyond() {
         Desk x = busy();
         x.at(0, 9, 9);
+        return x;
+    }
+
+    /** As busy(), with something more behind which a SEARCHING was SPENT again. */
+    final Desk busyWith(Call more) {
+        Desk x = busy();
+        more.on(x);
+        x.fill(0, 2);
+        x.judge(2, 8);
+        return x;
+    }
+
+    /** As busy(), with as many LISTS as there can be. */
+    final Desk sixteenLists() {
+        return busyWith(x -> {
+            while (x.count(0) < 16) {
+                x.list(PLAIN, 0, 0, 0);
+            }
+            return 0;
+        });
+    }
+
+    /** A GRID 0 of 2 by 2, for WORDS of LIST 0 across and of LIST 1 down. */
+    final Desk twoByTwo(String across, String down) {
+        Desk x = desk();
+        x.words(PLAIN, across.split(" "));
+        x.words(PLAIN, down.split(" "));
+        x.draw(0, "..", "..");
+        x.uses(0, false, 0);
+        x.uses(0, true, 1);
         return x;
     }
 

@@ -1,10 +1,5 @@
 /** The boundaries of promises 14 to 17: ENTRIES, what stands in them, where they cross. */
 final class EntryEdges extends Edges {
-    private static final String WHITE_IS = "WHITE is a SQUARE that there is and is not BLACK (a ROW that is LACKING has none; "
-        + "that is no FINDING where ENTRIES or SQUARES are looked at).";
-    private static final String NOTHING_IS = "1 NOTHING: where there is no GRID, no LIST, or a ROW is LACKING, and it is used;";
-    private static final String BEYOND_IS = "2 BEYOND: a ROW, a SQUARE, a place that there is not;";
-
     EntryEdges(Sentences said) {
         super(said);
     }

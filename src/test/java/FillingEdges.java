@@ -18,7 +18,9 @@ final class FillingEdges extends Edges {
     void all() {
         terms(18, (x, g, steps) -> x.fill(g, steps));
         terms(20, (x, g, steps) -> x.solve(g, 1, steps));
-        fill();
+        fillSteps();
+        fillStands();
+        fillFails();
         fillRefused();
         solve();
         manyFillings();
@@ -85,13 +87,13 @@ final class FillingEdges extends Edges {
         y.list(JOINED, 0, 1, 0);
         y.draw(0, "...");
         y.uses(0, false, 2);
-        int[] due = {4, 2, 2, 2};
+        int[] many = {4, 2, 2, 2};
         String[] rows = {"...", "A..", ".B.", "..C"};
         for (int i = 0; i < rows.length; i++) {
             y.draw(0, rows[i]);
             y.uses(0, false, 2);
             due(search.on(y, 0, 9), 1);
-            due(y.searched(3), due[i]);
+            due(y.searched(3), many[i]);
         }
         y.draw(0, "ABZ");
         y.uses(0, false, 2);
@@ -133,13 +135,13 @@ final class FillingEdges extends Edges {
         y.word(0, w("BB"), 1);
         y.word(0, w("ZZ"), 100);
         String[] want = {"ZZ", "BB", "CC", "DD", "AA"};
-        for (int i = 0; i < want.length; i++) {
+        for (String first : want) {
             y.draw(0, "..");
             y.uses(0, false, 0);
             due(search.on(y, 0, 1), 1);
-            fillingIs(y, want[i]);
-            y.word(0, w(want[i]), -100);
-            // What was first is last now, but for AA, which is BEFORE all that have as much.
+            fillingIs(y, first);
+            // What was first has the least then, as AA has, which is BEFORE it.
+            y.word(0, w(first), -100);
         }
         y.draw(0, "..");
         y.uses(0, false, 0);
@@ -158,12 +160,12 @@ final class FillingEdges extends Edges {
 
     /** Four ENTRIES apart have the first four CANDIDATES, in whatever order these came. */
     private void allInOrder() {
-        String[][] came = {{"CC", "BB", "AA", "DD"}, {"AA", "BB", "CC", "DD"}, {"DD", "CC", "BB", "AA"}, {"BB", "DD", "AA", "CC"}};
+        String[] came = {"CC BB AA DD", "AA BB CC DD", "DD CC BB AA", "BB DD AA CC"};
         int[] scores = {3, 2, 5, -1};
-        for (String[] words : came) {
+        for (String words : came) {
             Desk x = desk();
             x.list(SCORED, 0, 0, 0);
-            for (String word : words) {
+            for (String word : words.split(" ")) {
                 x.word(0, w(word), scores[word.charAt(0) - 'A']);
             }
             x.draw(0, "..", "##", "..", "##", "..", "##", "..");
@@ -188,20 +190,17 @@ final class FillingEdges extends Edges {
         }
     }
 
+    /** As busy(), with a GRID 3 by its rows for LISTS across and down. */
     private Begin using(int across, int down, String... rows) {
-        return () -> {
-            Desk x = busy();
+        return () -> busyWith(x -> {
             x.draw(3, rows);
             x.uses(3, false, across);
-            x.uses(3, true, down);
-            x.fill(0, 2);
-            x.judge(2, 8);
-            return x;
-        };
+            return x.uses(3, true, down);
+        });
     }
 
     private void candidateFindings() {
-        test(promise, "1 NOTHING: where there is no GRID, no LIST, or a ROW is LACKING, and it is used;");
+        test(promise, NOTHING_IS);
         searchFinds(this::busy, 3, NOTHING);
         searchFinds(using(-1, 0, ".."), 3, NOTHING);
         searchFinds(using(5, 0, ".."), 3, NOTHING);
@@ -229,18 +228,11 @@ final class FillingEdges extends Edges {
 
     private void fillings() {
         test(promise, "A FILLING gives each ENTRY one of its CANDIDATES, so that crossing ones agree, no WORD twice.");
-        Desk x = desk();
-        x.words(PLAIN, "AB", "CD");
-        x.words(PLAIN, "AC", "BD");
-        x.draw(0, "..", "..");
-        x.uses(0, false, 0);
-        x.uses(0, true, 1);
+        Desk x = twoByTwo("AB CD", "AC BD");
         due(search.on(x, 0, 5000), 1);
         fillingIs(x, "AB", "AC", "BD", "CD");
-        x.draw(0, "..", "..");
-        x.uses(0, false, 0);
-        x.uses(0, true, 0);
-        due(search.on(x, 0, 5000), 0);
+        due(search.on(twoByTwo("AB CD", "AC BE"), 0, 5000), 0);
+        due(search.on(twoByTwo("AB CD", "AB CD"), 0, 5000), 0);
         // One WORD for two ENTRIES, of one LIST or of two.
         due(search.on(forWords("AB", "..", "##", ".."), 0, 5000), 0);
         due(search.on(forWords("AB AC", "..", "##", ".."), 0, 5000), 1);
@@ -261,12 +253,8 @@ final class FillingEdges extends Edges {
 
     private void order() {
         test(promise, "SEARCHING: CANDIDATES of all ENTRIES are found, in order;");
-        Desk x = desk();
-        x.words(PLAIN, "AB", "CD");
-        x.words(PLAIN, "AC", "BD");
+        Desk x = twoByTwo("AB CD", "AC BD");
         x.list(PATTERN, 1, 0, w("??"));
-        x.draw(0, "..", "..");
-        x.uses(0, false, 0);
         x.uses(0, true, 2);
         due(search.on(x, 0, 5000), 1);
         began(x, 0, 1, 2, 3, 2, 3,
@@ -279,7 +267,7 @@ final class FillingEdges extends Edges {
         began(none, 0, 1, 2, 2, 1, 2, 3, 2, 3);
         searched(none, 0, 0, 2, 2);
         test(promise, "then ENTRIES are taken with the fewest CANDIDATES first, of as many in their order;");
-        // Three, one and two CANDIDATES: AC is taken first, then AB of AA and AB, then AA.
+        // Three, one and three CANDIDATES: AC is taken first, then AA above it, then AB below.
         Desk y = forWords("AA AB AC", "A.", "##", "AC", "##", "..");
         due(search.on(y, 0, 5000), 1);
         fillingIs(y, "AA", "AC", "AB");
@@ -324,8 +312,8 @@ final class FillingEdges extends Edges {
         due(search.on(y, 0, 5000), 1);
         fillingIs(y, "AA", "AB");
         searched(y, 3, 1, 2, 6);
-        Desk z = forWords("AZ ZB ZC", "..", "#.");
         // AZ; then AZ does not agree, ZB does.
+        Desk z = forWords("AZ ZB ZC", "..", "#.");
         due(search.on(z, 0, 5000), 1);
         fillingIs(z, "AZ", "ZB");
         searched(z, 3, 1, 2, 6);
@@ -344,18 +332,11 @@ final class FillingEdges extends Edges {
 
     /** The third ENTRY fails behind each choice of the second: both go on, and what they set is taken away again. */
     private void twiceBack() {
-        Desk x = desk();
-        x.words(PLAIN, "AA", "BB", "CC");
-        x.words(PLAIN, "CC", "DD", "EE", "FF");
-        x.draw(0, "..###", "##.##", "##.##", "###..");
-        x.uses(0, false, 0);
-        x.uses(0, true, 0);
         // All apart: AA, then AA, BB, then AA, BB, CC.
-        due(search.on(x, 0, 5000), 1);
-        searched(x, 1 + 2 + 3, 1, 3, 9);
-        x.draw(0, "..", "..");
-        x.uses(0, false, 0);
-        x.uses(0, true, 1);
+        Desk apart = forWords("AA BB CC", "..###", "##.##", "##.##", "###..");
+        due(search.on(apart, 0, 5000), 1);
+        searched(apart, 1 + 2 + 3, 1, 3, 9);
+        Desk x = twoByTwo("AA BB CC", "CC DD EE FF");
         // Both across first: three, three behind each, two of them unlike it; behind each pair four down, none agrees.
         due(search.on(x, 0, 5000), 0);
         searched(x, 3 + 3 * 3 + 6 * 4, 0, 4, 14);
@@ -394,8 +375,7 @@ final class FillingEdges extends Edges {
         due(search.on(forWords("AA AB", rows), 0, 3), 1);
     }
 
-    private void fill() {
-        promise = 18;
+    private void fillSteps() {
         test(18, "SEARCHING for a FILLING with so many STEPS (1 .. 5000):");
         bad((x, steps) -> x.fill(0, steps), NO_STEPS);
         due(busy().fill(0, 1), SPENT);
@@ -406,6 +386,9 @@ final class FillingEdges extends Edges {
         due(most.count(3), 5000);
         due(most.goOn(5000), SPENT);
         due(most.count(3), 10000);
+    }
+
+    private void fillStands() {
         test(18, "1: the first one stands in the GRID (of no ENTRIES: with 0 STEPS);");
         Desk x = forWords("AB AA", "..", "##", "..");
         due(x.fill(0, 3), 1);
@@ -429,6 +412,9 @@ final class FillingEdges extends Edges {
             due(y.digest(0), digest);
         }
         standsBesides();
+    }
+
+    private void fillFails() {
         test(18, "0: there is none;");
         Desk y = forWords("AB", "A.", "##", "..");
         long digest = y.digest(0);
@@ -484,8 +470,7 @@ final class FillingEdges extends Edges {
         Desk x = busy();
         x.grid(3, 0, 0);
         due(x.fill(3, 1), 1);
-        test(18, "WHITE is a SQUARE that there is and is not BLACK (a ROW that is LACKING has none; that is no FINDING where "
-            + "ENTRIES or SQUARES are looked at).");
+        test(18, WHITE_IS);
         Desk y = forWords("AB", "..", "..", "..");
         y.cut(0, 0, -1);
         y.cut(0, 2, -1);
@@ -503,6 +488,9 @@ final class FillingEdges extends Edges {
         bad((x, steps) -> x.solve(0, 1, steps), NO_STEPS);
         due(busy().solve(0, 1, 1), SPENT);
         due(busy().solve(0, 1000, 5000), 2);
+        Desk longest = tooLong();
+        due(longest.solve(0, 1, 5000), SPENT);
+        searched(longest, 5000, 0, 3, 120);
         Desk x = forWords("AA AB", "..", "##", "..");
         // FILLINGS at STEPS 3 and 5; the sixth finds none.
         int[][] most = {{1, 2, SPENT}, {1, 3, 1}, {2, 3, SPENT}, {2, 4, SPENT}, {2, 5, 2}, {3, 5, SPENT}, {3, 6, 2}, {1, 9, 1}};
@@ -564,8 +552,7 @@ final class FillingEdges extends Edges {
         searchFinds(this::busy, 3, NOTHING);
         searchFinds(using(5, 5, ".."), 3, NOTHING);
         due(busy().solve(2, 1, 1), 1);
-        test(20, "WHITE is a SQUARE that there is and is not BLACK (a ROW that is LACKING has none; that is no FINDING where "
-            + "ENTRIES or SQUARES are looked at).");
+        test(20, WHITE_IS);
         Desk y = forWords("AB", "..", "..");
         y.cut(0, 0, -1);
         due(y.solve(0, 9, 9), 1);

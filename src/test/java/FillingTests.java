@@ -159,36 +159,6 @@ public final class FillingTests {
         }
     }
 
-    /** A grid with as many entries as there can be, all of them unlike. */
-    private static void mostEntries() {
-        due.promise(18, "fill, 42 entries");
-        WordGrid x = new WordGrid();
-        x.list(0, 0, 0, 0);
-        x.list(0, 0, 0, 0);
-        x.grid(0, 7, 7);
-        for (int i = 0; i < 7; i++) {
-            for (int j = 0; j < 7; j++) {
-                x.letter(0, i, j, 1 + (i + 2 * j + i * j) % 26);
-            }
-            for (int j = 1; j < 5; j += 2) {
-                x.bar(0, i, j, false, true);
-                x.bar(0, j, i, true, true);
-            }
-        }
-        for (int e = 0; e < 42; e++) {
-            x.word(x.entry(0, e, 2), x.stands(0, e), 0);
-        }
-        due.is("words across", x.ask(0, 1, 0), 21);
-        due.is("words down", x.ask(1, 1, 0), 21);
-        x.uses(0, false, 0);
-        x.uses(0, true, 1);
-        due.is("they stand", x.fill(0, 42), 1);
-        searched(x, 42, 1, 42, 42);
-        due.is("they are alone", x.solve(0, 2, 42), 1);
-        due.is("the last one", x.first(0, 41), x.stands(0, 41));
-        due.is("none behind it", x.first(0, 42), 0);
-    }
-
     private static void fillFindings() {
         due.promise(18, "fill, findings");
         WordGrid x = new WordGrid();
@@ -478,7 +448,6 @@ public final class FillingTests {
         fill();
         fillOrder();
         whole();
-        mostEntries();
         fillFindings();
         goOn();
         goOnAndChanges();

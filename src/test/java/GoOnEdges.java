@@ -16,26 +16,14 @@ final class GoOnEdges extends Edges {
         moves();
     }
 
-    /** A GRID of 2 by 2 that takes CANDIDATES of two LISTS: none fits, at 36 STEPS. */
+    /** A SEARCHING that finds none, with 36 STEPS: both across are taken first, then no place agrees. */
     private Desk none() {
-        Desk x = desk();
-        x.words(PLAIN, "AA", "BB", "CC");
-        x.words(PLAIN, "CC", "DD", "EE", "FF");
-        x.draw(0, "..", "..");
-        x.uses(0, false, 0);
-        x.uses(0, true, 1);
-        return x;
+        return twoByTwo("AA BB CC", "CC DD EE FF");
     }
 
-    /** As none(), but AC and BD fit behind AB and CD, at 6 STEPS. */
+    /** A SEARCHING that finds AB over CD with 6 STEPS. */
     private Desk one() {
-        Desk x = desk();
-        x.words(PLAIN, "CD", "AB");
-        x.words(PLAIN, "BD", "AC");
-        x.draw(0, "..", "..");
-        x.uses(0, false, 0);
-        x.uses(0, true, 1);
-        return x;
+        return twoByTwo("CD AB", "BD AC");
     }
 
     private void goesOn() {
@@ -275,10 +263,7 @@ final class GoOnEdges extends Edges {
 
     /** A desk where no more LISTS can be made, LIST 9 has 40 WORDS, a ROW of GRID 3 is cut, and a SEARCHING was SPENT. */
     private Desk fullDesk() {
-        Desk x = busy();
-        for (int l = 9; l < 16; l++) {
-            x.list(PLAIN, 0, 0, 0);
-        }
+        Desk x = sixteenLists();
         for (int i = 0; i < 40; i++) {
             x.word(9, nth(i), 0);
         }

@@ -1,8 +1,5 @@
 /** The boundaries of promises 1 to 7: a new object, GRIDS, ROWS, SQUARES and BARS. */
 final class GridEdges extends Edges {
-    private static final String NOTHING_IS = "1 NOTHING: where there is no GRID, no LIST, or a ROW is LACKING, and it is used;";
-    private static final String BEYOND_IS = "2 BEYOND: a ROW, a SQUARE, a place that there is not;";
-
     interface SquareCall {
         long on(Desk x, int g, int r, int c);
     }

@@ -105,23 +105,12 @@ final class ListEdges extends Edges {
         }
     }
 
-    /** As busy(), with as many LISTS as there can be. */
-    private Desk sixteenMade() {
-        Desk x = busy();
-        for (int l = MADE; l < 16; l++) {
-            x.list(PLAIN, 0, 0, 0);
-        }
-        x.fill(0, 2);
-        x.judge(2, 8);
-        return x;
-    }
-
     private void sixteen() {
         test(8, "FULL: 16 were made,");
         for (int kind = PLAIN; kind <= JOINED; kind++) {
             int k = kind;
-            refusedOn(this::sixteenMade, x -> x.list(k, 0, 0, w("??")), FULL);
-            Desk x = sixteenMade();
+            refusedOn(this::sixteenLists, x -> x.list(k, 0, 0, w("??")), FULL);
+            Desk x = sixteenLists();
             x.drop(15);
             due(x.list(kind, 0, 0, w("??")), FULL);
         }
@@ -131,9 +120,9 @@ final class ListEdges extends Edges {
         }
         due(x.list(PLAIN, 0, 0, 0), 15);
         due(x.list(PLAIN, 0, 0, 0), FULL);
-        refusedOn(this::sixteenMade, y -> y.list(5, 0, 0, 0), BAD);
-        refusedOn(this::sixteenMade, y -> y.list(PATTERN, 16, 0, w("??")), BAD);
-        refusedOn(this::sixteenMade, y -> y.list(PATTERN, 0, 0, 0), BAD);
+        refusedOn(this::sixteenLists, y -> y.list(5, 0, 0, 0), BAD);
+        refusedOn(this::sixteenLists, y -> y.list(PATTERN, 16, 0, w("??")), BAD);
+        refusedOn(this::sixteenLists, y -> y.list(PATTERN, 0, 0, 0), BAD);
     }
 
     /** LISTS 0 .. 8 of WEIGHTS 1, 2, 3, 6, 7, 14, 15, 29, 30. */

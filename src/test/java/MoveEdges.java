@@ -21,8 +21,8 @@ final class MoveEdges extends Edges {
     }
 
     private void blocks() {
-        test(24, "h times w SQUARES (0 .. 7) from ROW r, place c of a GRID come to ROW s, place d of another one (or the same), "
-            + "with their SIGNS and BARS,");
+        test(24, "h times w SQUARES (0 .. 7) from ROW r, place c of a GRID come to ROW s, place d of another one "
+            + "(or the same), with their SIGNS and BARS,");
         Desk x = desk();
         x.draw(0, "ABC", "D#.");
         x.bar(0, 0, 0, false, true);
@@ -266,8 +266,8 @@ final class MoveEdges extends Edges {
 
     private void noRows() {
         test(24, "with h 0 nothing is looked at):");
-        int[][] blocks = {{3, 0, 0, 3, 0, 0, 0, 0}, {0, -1, 0, 0, 0, 0, 0, 1}, {0, 0, 0, 0, 9, 0, 0, 7}, {0, 0, MIN, 0, 0, MAX, 0, 7},
-            {1, 2, 0, 1, 2, 0, 0, 1}, {3, MAX, MAX, 3, MIN, MIN, 0, 7}};
+        int[][] blocks = {{3, 0, 0, 3, 0, 0, 0, 0}, {0, -1, 0, 0, 0, 0, 0, 1}, {0, 0, 0, 0, 9, 0, 0, 7},
+            {0, 0, MIN, 0, 0, MAX, 0, 7}, {1, 2, 0, 1, 2, 0, 0, 1}, {3, MAX, MAX, 3, MIN, MIN, 0, 7}};
         for (int[] block : blocks) {
             Desk x = busy();
             long digest = x.digest(0) + x.digest(1) + x.digest(2);

@@ -1,8 +1,5 @@
 /** The boundaries of promises 23, 26 and 27: judging, turning and mirroring. */
 final class ShapeEdges extends Edges {
-    private static final String WHITE_IS = "WHITE is a SQUARE that there is and is not BLACK (a ROW that is LACKING has none; "
-        + "that is no FINDING where ENTRIES or SQUARES are looked at).";
-
     ShapeEdges(Sentences said) {
         super(said);
     }
@@ -443,11 +440,9 @@ final class ShapeEdges extends Edges {
 
     /** As busy(), with a GRID 3 of three ROWS of two SQUARES, one of them cut to n. */
     private Desk cut(int row, int n) {
-        Desk x = busy();
-        x.draw(3, "AB", "CD", "EF");
-        x.cut(3, row, n);
-        x.fill(0, 2);
-        x.judge(2, 8);
-        return x;
+        return busyWith(x -> {
+            x.draw(3, "AB", "CD", "EF");
+            return x.cut(3, row, n);
+        });
     }
 }

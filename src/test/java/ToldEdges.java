@@ -197,24 +197,16 @@ final class ToldEdges extends Edges {
         refused(x -> x.letter(1, 1, 1, 26), -2);
         refused(x -> x.goOn(0), -1);
         refused(x -> x.bar(2, 0, 0, true, true), -2);
-        Begin full = () -> {
-            Desk x = busy();
-            for (int l = 9; l < 16; l++) {
-                x.list(PLAIN, 0, 0, 0);
-            }
-            x.fill(0, 2);
-            x.judge(2, 8);
-            return x;
-        };
-        refusedOn(full, x -> x.list(5, 0, 0, 0), -1);
-        refusedOn(full, x -> x.list(4, 0, 0, 0), -3);
+        refusedOn(this::sixteenLists, x -> x.list(5, 0, 0, 0), -1);
+        refusedOn(this::sixteenLists, x -> x.list(4, 0, 0, 0), -3);
     }
 
     private void found() {
         test(30, "How many FINDINGS of a kind 1 .. 5 there were.");
         Desk x = busy();
         int[] there = {0, 0, 0, 0, 1};
-        Call[] calls = {y -> y.entries(3), y -> y.at(0, 9, 9), y -> y.word(3, w("AB"), 0), y -> y.grid(3, 0, -1), y -> y.judge(2, 8)};
+        Call[] calls = {y -> y.entries(3), y -> y.at(0, 9, 9), y -> y.word(3, w("AB"), 0), y -> y.grid(3, 0, -1),
+            y -> y.judge(2, 8)};
         for (int round = 0; round < 3; round++) {
             for (int kind = 1; kind <= 5; kind++) {
                 due(calls[kind - 1].on(x), -10 - kind);
@@ -245,8 +237,8 @@ final class ToldEdges extends Edges {
     }
 
     private void digest() {
-        test(31, "d is 7; for each ROW of a GRID: d becomes 31 d and how many SQUARES it has (-1: LACKING), then for each SQUARE "
-            + "31 d and what at() tells (longs that wrap).");
+        test(31, "d is 7; for each ROW of a GRID: d becomes 31 d and how many SQUARES it has (-1: LACKING), then for each "
+            + "SQUARE 31 d and what at() tells (longs that wrap).");
         Desk x = desk();
         x.grid(0, 0, 0);
         due(x.digest(0), 7);
