@@ -191,6 +191,8 @@ final class ShapeEdges extends Edges {
         due(drawn(".#.", ".#.").judge(0, 6), 1);
         due(drawn("A..", "Z..").judge(0, 6), 1);
         due(drawn("..", "..", "..", "#.").judge(0, 6), 0);
+        due(drawn("#.", "..", "..", "..").judge(0, 6), 0);
+        due(drawn("#.", "..", "..", ".#").judge(0, 6), 1);
         due(drawn("..#.").judge(0, 6), 0);
         // A SQUARE that there is not is no WHITE one, and comes to a BLACK one as well as to none.
         Desk x = drawn("...", "...");
