@@ -1,6 +1,10 @@
 /** Long runs of calls, drawn by a written row of numbers, on a WordGrid and on the Model: all answers must be alike. */
 public final class ModelTests {
-    private static final int RUNS = 1500, CALLS = 500;
+    private static final int RUNS = 8000;
+    /** What an object answers behind so many calls is free. */
+    private static final int MOST_CALLS = 512;
+    /** As many as are left for the comparison that ends a run. */
+    private static final int LAST_CALLS = 170;
     private static final int[] ODD = {-1, -2, 4, 7, 8, 16, 40, 1000, Integer.MAX_VALUE, Integer.MIN_VALUE};
 
     private final WordGrid x = new WordGrid();
@@ -11,6 +15,7 @@ public final class ModelTests {
     private final int side;
     private final int grids;
     private boolean wrong;
+    private int calls;
     /** How often an answer was given, so that the runs can be seen to reach what they should. */
     private static final int[] SEEN = new int[64];
     private static int goneOn;
@@ -90,6 +95,7 @@ public final class ModelTests {
     }
 
     private void check(String call, long got, long want) {
+        calls++;
         if (got != want && !wrong) {
             wrong = true;
             System.out.println(log);
@@ -304,54 +310,104 @@ public final class ModelTests {
         }
     }
 
-    private void compareAll() {
+    /** As many lists and words as nearly fill the desk, so that some call finds it FULL. */
+    private void beginFull() {
+        for (int i = 0; i < 17; i++) {
+            int kind = i == 0 ? 0 : draw(0, 4);
+            int a = Math.max(i - draw(1, 3), 0);
+            int b = Math.max(i - draw(1, 3), 0);
+            long p = pattern();
+            same(text("list", kind, a, b, p), x.list(kind, a, b, p), m.list(kind, a, b, p));
+        }
+        for (int k = 0; k < 75; k++) {
+            long w = draw(1, 8) | draw(1, 7) << 5;
+            same(text("word", 0, w, 0), x.word(0, w, 0), m.word(0, w, 0));
+        }
+    }
+
+    private void toldCall() {
+        int i = draw(-1, 6);
+        switch (draw(4)) {
+            case 0:
+                check(text("found", i), x.found(i), m.found(i));
+                break;
+            case 1:
+                check(text("count", i), x.count(i), m.count(i));
+                break;
+            case 2:
+                check(text("digest", i), x.digest(i), m.digest(i));
+                break;
+            default: {
+                int n = draw(3) == 0 ? draw(-1, 101) : draw(8);
+                check(text("trace", n), x.trace(n), m.trace(n));
+            }
+        }
         check("finding()", x.finding(), m.finding());
+    }
+
+    private void compareTold() {
         for (int i = -1; i < 7; i++) {
-            check("found(" + i + ")", x.found(i), m.found(i));
-            check("count(" + i + ")", x.count(i), m.count(i));
-            check("digest(" + i + ")", x.digest(i), m.digest(i));
+            check(text("found", i), x.found(i), m.found(i));
+            check(text("count", i), x.count(i), m.count(i));
+            check(text("digest", i), x.digest(i), m.digest(i));
+        }
+        check("finding()", x.finding(), m.finding());
+    }
+
+    private void compareTrace() {
+        for (int i = -1; i < 102; i++) {
+            check(text("trace", i), x.trace(i), m.trace(i));
         }
         check("finding()", x.finding(), m.finding());
     }
 
     private void compareSearches() {
-        for (int i = -1; i < 102; i++) {
-            check("trace(" + i + ")", x.trace(i), m.trace(i));
-        }
-        check("finding()", x.finding(), m.finding());
         for (int i = 0; i < 4; i++) {
-            check("searched(" + i + ")", x.searched(i), m.searched(i));
+            check(text("searched", i), x.searched(i), m.searched(i));
         }
-        for (int i = 0; i < 130; i++) {
-            check("first(" + i / 43 + ", " + i % 43 + ")", x.first(i / 43, i % 43), m.first(i / 43, i % 43));
+        for (int i = 0; i < 3 * 43; i++) {
+            check(text("first", i / 43, i % 43), x.first(i / 43, i % 43), m.first(i / 43, i % 43));
         }
         check("moved()", x.moved(), m.moved());
         check("finding()", x.finding(), m.finding());
     }
 
+    private void drawnCall() {
+        int what = draw(20);
+        if (what < 5) {
+            gridCall();
+        } else if (what < 10) {
+            listCall();
+        } else if (what < 13) {
+            entryCall();
+        } else if (what < 17) {
+            searchCall();
+        } else {
+            shapeCall();
+        }
+        toldCall();
+    }
+
     private boolean go() {
-        if (draw(4) > 0) {
+        int beginning = draw(8);
+        if (beginning < 6) {
             begin();
+        } else if (beginning == 6) {
+            beginFull();
         }
-        for (int i = 0; i < CALLS && !wrong; i++) {
-            int what = draw(20);
-            if (what < 5) {
-                gridCall();
-            } else if (what < 10) {
-                listCall();
-            } else if (what < 13) {
-                entryCall();
-            } else if (what < 17) {
-                searchCall();
-            } else {
-                shapeCall();
-            }
-            compareAll();
-            if (draw(40) == 0) {
-                compareSearches();
-            }
+        while (calls < MOST_CALLS - LAST_CALLS && !wrong) {
+            drawnCall();
         }
-        compareSearches();
+        compareTold();
+        if (coin()) {
+            compareTrace();
+        } else {
+            compareSearches();
+        }
+        if (calls > MOST_CALLS) {
+            System.out.println("the run has " + calls + " calls");
+            wrong = true;
+        }
         return !wrong;
     }
 
